@@ -49,6 +49,10 @@ public final class PromisesTest {
         images();
         rows();
         paste();
+        fifteen();
+        seventy();
+        runsForgotten();
+        shapesClosely();
         Check.close();
     }
 
@@ -589,6 +593,9 @@ public final class PromisesTest {
         due("copied z not above a", x.copied(7, 1, 7), -2);
         due("pace", x.pace(0, 7), 6);
         due("pace, the greatest", x.pace(0, 1), 40);
+        due("pace, each TICK", of("system law 0 odds 0;touch 1 0;lead 1;").pace(0, 2), 1);
+        due("pace, fewest in the last ahead of fewest in all", of("system law 0 odds 0;touch 1 0;touch 1 0;lead 1;"
+            + "lead 1;touch 1 1;").pace(0, 4), 3);
         due("pace z not above a", x.pace(2, 2), -2);
         due("pace to 8", x.pace(0, 8), -2);
         due("pace from -1", x.pace(-1, 3), -2);
@@ -598,6 +605,7 @@ public final class PromisesTest {
         FrozenTrees x = of("system law 0 odds 0;fork 1 2;exit 2;fork 1 3;exit 3;");
         due("spare, the first", x.spare(), 1);
         due("spare, most", of("system law 0 odds 0;fork 1 2;exit 2;fork 1 3;exit 3;fork 3 4;").spare(), 3);
+        due("spare of a fork", of("system law 0 odds 0;fork 1 3;exit 3;fork 1 3;").spare(), 0);
         due("spare none", of("system law 0 odds 0;fork 1 2;").spare(), -1);
         FrozenTrees y = of("system law 0 odds 0;fork 1 2;");
         y.does(2, 2, 0, 0);
@@ -1043,5 +1051,140 @@ public final class PromisesTest {
         due("nothing happened", x.plain(1), 1);
         due("none at the end", x.paste(0, 7, 1, 3, 0), 0);
         due("all", x.paste(1, 0, 1, 0, 3), 0);
+    }
+
+    /** A chain of all fifteen, the last of whom is an edge of every loop over PROCESSES. */
+    private static void fifteen() {
+        StringBuilder chain = new StringBuilder("system law 1 odds 0;");
+        for (int p = 1; p < 15; p++) {
+            chain.append("fork ").append(p).append(' ').append(p + 1).append(';');
+        }
+        FrozenTrees x = of(chain + "open 15 7;lead 15;touch 15 7;exit 14;");
+        due("all alive", x.alive(14), 32767);
+        due("kids of 14", x.kids(14, 14), 16384);
+        due("under 1", x.under(1, 14), 14);
+        due("under 14", x.under(14, 14), 1);
+        due("depth of 15", x.depth(15, 14), 15);
+        due("members of 1", x.members(1, 14), 32767);
+        due("members of 1 then", x.members(1, 16), 16383);
+        due("members of 15", x.members(15, 16), 16384);
+        due("one session", x.sessions(14), 1);
+        due("two sessions", x.sessions(16), 2);
+        due("born 15", x.born(15), 14);
+        due("object of 15", x.object(15, 7, 15), 0);
+        due("label of 15", x.label(15, 7, 15), 0);
+        due("sharers of 15", x.sharers(15, 7, 15), 16384);
+        due("objects", x.objects(15), 1);
+        due("dirty of 15", x.dirty(15, 14, 18), 128);
+        due("copied of 15", x.round(14, 4, 18, 1), 1);
+        due("15 hangs from 13", x.parent(15, 18), 13);
+        due("raised last", x.raised(14, 14), 15);
+        due("raised no more", x.raised(15, 14), -1);
+        due("steps", x.steps(14), 14);
+        due("steps with a lead", x.steps(16), 15);
+        due("how 15", x.how(15, 16), 1);
+        due("unlike by 15", x.alike(14, 15), 0);
+        due("unlike by 15's session", x.alike(15, 16), 0);
+        due("gets of 15", x.gets(15, 13, 0, 0), 0);
+        due("gets of 13", x.gets(13, 15, 0, 0), 3);
+        due("gets of 13, by 15's exit", x.gets(13, 15, 0, 1), 0);
+        due("all raised by law 0", x.by(0), 0);
+        tell(x, 0, 0, 18, 15, 13);
+        due("15 seen", x.plain(0), 1);
+        tell(x, 0, 0, 18, 13, 15);
+        due("15 not seen so", x.plain(0), 0);
+        due("chance of 15", x.chance(15, 6, 0), 1);
+        due("worth of all", x.worth(32767), 14);
+        due("worth without 14", x.worth(32767 - 8192), 14);
+        due("luck of 15", x.luck(0, 3, 15), 3);
+        FrozenTrees y = of(chain + "lead 14;exit 13;");
+        due("all but 13 raised", y.lost(16), 0);
+        due("15 ahead of 14's lead", y.how(15, 16), 3);
+    }
+
+    /** 40 EVENTS told and 30 acts. */
+    private static void seventy() {
+        FrozenTrees x = of("system law 0 odds 0;" + "pipe 1 0 1;close 1 0;close 1 1;open 1 0;close 1 0;".repeat(8));
+        for (int i = 0; i < 10; i++) {
+            due("pipe " + i, x.does(4, 1, 2, 3), 0);
+            due("close " + i, x.does(6, 1, 2, 0), 0);
+            due("close too " + i, x.does(6, 1, 3, 0), 0);
+        }
+        due("no room", x.does(9, 1, 0, 0), -5);
+        due("alive at 70", x.alive(70), 1);
+        due("no 71", x.alive(71), -2);
+        due("same at 70", x.same(70), 0);
+        due("same at 69", x.same(69), 42);
+        due("shapes", x.shapes(), 6);
+        due("usual", x.usual(), 0);
+        due("the last OBJECT", x.kind(43, 70), 2);
+        due("none behind it", x.kind(44, 70), -1);
+        due("event 69", x.event(69, 0), 6);
+        due("event 70", x.event(70, 0), -2);
+        due("refusals", x.refusals(70), 0);
+        due("round 70", x.round(0, 1, 70, 70), 0);
+        due("round 71", x.round(0, 1, 70, 71), -1);
+        due("pace", x.pace(0, 70), 40);
+        tell(x, 0, 0, 70, 1, 0);
+        due("may", x.may(0), 40);
+    }
+
+    /** What was asked ahead of a change is not answered behind it. */
+    private static void runsForgotten() {
+        FrozenTrees x = of("system law 0 odds 0;fork 1 2;fork 1 3;");
+        x.image(0);
+        due("first", x.alive(2), 7);
+        due("shapes of the first", x.shapes(), 3);
+        Check.feed(x, "system law 0 odds 0;fork 1 4;lead 1;");
+        x.system();
+        due("second", x.alive(2), 9);
+        due("refusals of the second", x.refusals(2), 1);
+        due("shapes of the second", x.shapes(), 2);
+        x.back(0);
+        due("first again", x.alive(2), 7);
+        due("shapes of the first again", x.shapes(), 3);
+        x.does(0, 1, 5, 0);
+        x.does(3, 5, 0, 0);
+        due("acts", x.alive(4), 23);
+        due("shapes with acts", x.shapes(), 5);
+        x.anew();
+        x.does(9, 1, 0, 0);
+        x.does(9, 2, 0, 0);
+        due("other acts", x.alive(4), 7);
+        due("shapes with other acts", x.shapes(), 3);
+        due("same with other acts", x.same(4), 2);
+        x.undo();
+        x.does(2, 3, 0, 0);
+        due("another act", x.alive(4), 3);
+        due("same with another act", x.same(4), 1);
+        FrozenTrees y = of("system law 0 odds 5;fork 1 2;fork 1 3;fork 1 4;fork 1 5;");
+        // the draws of seed 0: 0 8 8 7, of seed 1: 8 8 3 5, of seed 2: 8 7 9 4
+        due("luck of 2", y.luck(0, 3, 2), 2);
+        due("luck of 3", y.luck(0, 3, 3), 3);
+        due("luck of 4", y.luck(0, 3, 4), 2);
+        due("luck of 5", y.luck(0, 3, 5), 2);
+        due("seed 0", y.drawn(0, 0), 1);
+        FrozenTrees z = of("system law 0 odds 0;fork 1 2;fork 2 3;");
+        due("each exits once the other does", z.rests(2, 3), 8);
+        due("the other way", z.rests(3, 2), 8);
+    }
+
+    private static void shapesClosely() {
+        FrozenTrees x = of("system law 0 odds 0;pipe 1 0 1;open 1 2;write 1 1 5;");
+        due("bytes ahead of a FILE", x.alike(2, 3), 0);
+        FrozenTrees y = of("system law 0 odds 0;pipe 1 0 1;write 1 1 5;close 1 1;read 1 0 2;");
+        due("bytes of a READ END alone", y.alike(3, 4), 0);
+        FrozenTrees z = of("system law 0 odds 0;open 1 0;copy 1 0 7;close 1 0;copy 1 7 6;close 1 7;");
+        due("at another HANDLE", z.alike(1, 3), 0);
+        due("at 6 and at 7", z.alike(3, 5), 0);
+        due("at two HANDLES", z.alike(2, 4), 0);
+        due("six shapes", z.shapes(), 6);
+        FrozenTrees w = of("system law 0 odds 0;open 1 0;fork 1 2;open 1 1;close 2 0;open 2 0;close 2 0;copy 2 1 0;");
+        due("2 has no HANDLE 1", w.refused(6), 3);
+        due("a FILE of its own or not", w.alike(3, 5), 0);
+        due("as behind the first close", w.same(6), 4);
+        FrozenTrees v = of("system law 0 odds 0;pipe 1 0 1;close 1 0;open 1 0;close 1 1;open 1 1;");
+        due("a FILE or a READ END", v.alike(1, 3), 0);
+        due("two FILES", v.same(5), 5);
     }
 }
