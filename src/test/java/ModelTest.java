@@ -120,6 +120,9 @@ public final class ModelTest {
         Object[] numbers = new Object[parts.length - 1];
         for (int i = 0; i < numbers.length; i++) {
             numbers[i] = number(parts[i + 1].charAt(0));
+            if (numbers[i] instanceof Integer && random.nextInt(100) == 0) {
+                numbers[i] = random.nextBoolean() ? Integer.MIN_VALUE : Integer.MAX_VALUE;
+            }
         }
         call(parts[0], numbers);
     }
