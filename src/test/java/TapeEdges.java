@@ -121,9 +121,9 @@ final class TapeEdges {
         Edges.due("nothing done", x.count(3), 0);
         Edges.due("TICK 1 of the other", x.alive(1), 3);
         Edges.due("TICK 40", x.alive(40), 3);
-        Edges.due("the same again", Edges.told(x, Edges.BARE + "fork 1 3;"), 2);
+        Edges.due("a third one", Edges.told(x, Edges.BARE + "fork 1 3;"), 2);
         Edges.due("fewer TICKS", x.alive(2), -2);
-        Edges.due("another 1", x.alive(1), 5);
+        Edges.due("its TICK 1", x.alive(1), 5);
     }
 
     private static void systemNone() {

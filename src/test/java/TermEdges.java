@@ -88,12 +88,46 @@ final class TermEdges {
         alike("open 1 0;open 1 1;fork 1 2;close 2 0;copy 2 1 0;", 3, 5, 0);
         // the same two FILES by the same HANDLES, made the other way about
         alike("open 1 0;open 1 1;close 1 0;close 1 1;open 1 1;open 1 0;", 2, 6, 1);
+        manyLabels();
         Edges.says("III", "of each LABEL whether it is a FILE, a READ END, a WRITE END,");
         alike("open 1 0;close 1 0;pipe 1 0 1;close 1 1;", 1, 4, 0);
         alike("open 1 0;close 1 0;pipe 1 1 0;close 1 1;", 1, 4, 0);
         alike("pipe 1 0 1;close 1 1;close 1 0;pipe 1 1 0;close 1 1;", 2, 5, 0);
         alike("pipe 1 0 1;close 1 0;close 1 1;pipe 1 1 0;", 1, 4, 0);
         alike("pipe 1 0 1;close 1 0;close 1 1;pipe 1 0 1;", 1, 4, 1);
+    }
+
+    /** 1 .. 9 hold LABELS 0 .. 63, 10 holds 0 and 64 (47 EVENTS): each other HANDLE of 10 by acts, 0 or 64. */
+    private static void manyLabels() {
+        StringBuilder b = new StringBuilder(Edges.BARE).append("open 1 0;");
+        for (int c = 2; c <= 10; c++) {
+            b.append("fork 1 ").append(c).append(';');
+        }
+        for (int p = 1; p <= 7; p++) {
+            b.append("pipe ").append(p).append(" 1 2;pipe ").append(p).append(" 3 4;pipe ").append(p).append(" 5 6;");
+            b.append("open ").append(p).append(" 7;");
+        }
+        FrozenTrees x = Edges.of(b.toString());
+        for (int p = 8; p <= 9; p++) {
+            x.does(4, p, 1, 2);
+            x.does(4, p, 3, 4);
+            x.does(4, p, 5, 6);
+            x.does(3, p, 7, 0);
+        }
+        x.does(3, 10, 2, 0);
+        x.image(0);
+        Edges.due("the last LABEL", x.label(10, 2, 47), 64);
+        int[] free = {1, 3, 4, 5, 6, 7};
+        for (int h : free) {
+            x.back(0);
+            x.does(5, 10, 0, h);
+            x.does(6, 10, h, 0);
+            x.does(5, 10, 2, h);
+            Edges.due("LABEL 64 by " + h, x.label(10, h, 50), 64);
+            Edges.due("LABEL 0 or none by " + h, x.alike(47, 48), 0);
+            Edges.due("LABEL 0 or 64 by " + h, x.alike(48, 50), 0);
+            Edges.due("none again by " + h, x.alike(47, 49), 1);
+        }
     }
 
     private static void shapesOfEnds() {
